@@ -169,7 +169,7 @@ public final class BestTest {
         x.aunt(AUNT, 1, 0);
         T.due("all", x.together(0, 1, 0), 1515);
         T.due("eight", x.together(0, 1, 1), 8);
-        // who has a third one's cup hurts herself, not the two
+        // the third, by her own plan, leaves nothing to the two
         x = Due.ruled("may heat=80; joys 5; cools 0;");
         x.aunt(AUNT, 1, 1);
         x.aunt(AUNT, 1, 0);
