@@ -18,6 +18,8 @@ public final class HourTest {
         shareAndCups();
         hourTruly();
         hourAt999();
+        eachHourAnew();
+        fiveAunts();
         thoughtChangesNothing();
         T.end();
     }
@@ -261,6 +263,49 @@ public final class HourTest {
         T.due("heat", x.told(0, 0), 56);
         T.due("had", x.told(0, 6), 77);
         T.due("in thought an hour still goes", x.share(0), 53);
+    }
+
+    private static void eachHourAnew() {
+        TepidByTreaty x = Due.ruled("may heat<75; joys 1; cools 0;");
+        x.aunt(MEEK, 0, 1);
+        x.set(3, 0, 1);
+        x.set(0, 0, 70);
+        T.due("pours", x.minute(0, 2), 1);
+        T.due("may", x.minute(0, 3), 0);
+        T.due("cups", x.cups(0), 1);
+        x.set(0, 0, 80);
+        T.due("pours no more", x.minute(0, 2), 0);
+        T.due("may no more", x.minute(0, 3), 1);
+        T.due("no cup", x.cups(0), 0);
+        T.due("no joy", x.share(0), 0);
+        x.set(0, 0, 70);
+        x.set(3, 0, 0);
+        T.due("may again", x.minute(0, 3), 0);
+        T.due("shows no more", x.minute(0, 1), 0);
+    }
+
+    private static void fiveAunts() {
+        TepidByTreaty x = Due.ruled("may 1; joys 3; cools 0;");
+        for (int kind = 0; kind < 5; kind++) {
+            x.aunt(kind, 1, 1);
+        }
+        // 80: 3, to 74; 6, to 67; 4, to 64; 6 and 3, to 57; half of 4, to 53
+        int[] joy = {3, 6, 4, 9, 2};
+        for (int a = 0; a < 5; a++) {
+            T.due("joy of kind " + a, x.share(a), joy[a]);
+        }
+        T.due("settle: all but the PROUD, for it is too cold in minute 1", x.settle(), 4);
+        T.due("rest", x.rest(), 1);
+        for (int a = 0; a < 5; a++) {
+            x.set(4, a, 1);
+        }
+        T.due("drawn", x.drawn(5), 24);
+        T.due("chance", x.chance(5, 20, 0), 1);
+        T.due("greediest", x.greediest(0), 3);
+        T.due("together", x.together(3, 4, 0), 1515);
+        T.due("hour", x.hour(), 24);
+        T.due("had", x.told(4, 6), 2);
+        T.due("heat", x.told(0, 0), 53);
     }
 
     private static void thoughtChangesNothing() {

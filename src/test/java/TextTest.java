@@ -10,6 +10,7 @@ public final class TextTest {
         faultsOfDepth();
         textFull();
         forceRules();
+        longTextsLeaveNothing();
         values();
         namesOfAnAunt();
         namesOfNobody();
@@ -87,6 +88,14 @@ public final class TextTest {
         fault("may;joys 1;cools 1;", 3);
         fault("mays 1;", 0);
         fault("ma y 1;", 0);
+        fault("xay 1;", 0);
+        fault("maz 1;", 0);
+        fault("mayz 1;", 0);
+        fault("amay 1;", 0);
+        fault("may zcups;", 4);
+        fault("may xeat;", 4);
+        fault("may 1 xr 1;", 6);
+        fault("may 1 ox 1;", 6);
         fault("may1;joys 1;cools 1", 19);
         fault("may 1 2;", 6);
         fault("may 1 heat;", 6);
@@ -183,6 +192,25 @@ public final class TextTest {
         T.due("which was", x.force(0), 1);
         T.due("refused", x.force(2), -2);
         T.due("count(4)", x.count(4), 0);
+    }
+
+    private static void longTextsLeaveNothing() {
+        TepidByTreaty x = new TepidByTreaty();
+        for (int k = 0; k < 2; k++) {
+            T.due("a long fault", Due.text(x, "may 1" + "+1".repeat(77) + "!"), -259);
+        }
+        T.due("digits up to the tape's end", Due.text(x, "may " + "9".repeat(156)), -104);
+        T.due("too early, whatever stood behind", Due.text(x, "may 1"), -105);
+        x = new TepidByTreaty();
+        T.due("a tape of 160 that ends too early, by a digit", Due.text(x, "may 1234" + "+7".repeat(76)), -260);
+        T.due("by a name", Due.text(x, "may heat" + "*cup".repeat(37) + "*heat"), -109);
+        T.due("by a sound one", Due.text(x, "may heat" + "*cups".repeat(30) + "+1"), -260);
+        x = new TepidByTreaty();
+        T.due("then a text", Due.text(x, "may 2-1; joys 5*7; cools 9-5;"), 1);
+        x.force(1);
+        x.aunt(0, 0, 1);
+        T.due("joys", x.share(0), 35);
+        T.due("cools", x.minute(1, 0), 66);
     }
 
     /** What an E is: by the joy of an AUNT's cup, so within -99 and 99. */

@@ -11,6 +11,7 @@ public final class ToldTest {
         tellsThirsts();
         tellsPlans();
         tellsTexts();
+        tellsOfTheFifth();
         tellsRefuses();
         film();
         drawn();
@@ -105,6 +106,12 @@ public final class ToldTest {
         Due.row(x, 2, 74);
         T.due("99 is one", x.tells(2, 30), 1);
         T.due("and the least", x.tells(2, 40), 99);
+        x = Due.ruled("may thirst=100; joys 1; cools 0;");
+        x.aunt(AUNT, 0, 1);
+        T.due("100 is none", x.told(0, 3), 10);
+        Due.row(x, 2, 74);
+        T.due("none", x.tells(2, 30), 0);
+        T.due("no least", x.tells(2, 40), -1);
     }
 
     private static void tellsPlans() {
@@ -144,6 +151,21 @@ public final class ToldTest {
         x.force(5);
         Due.row(x, 0, 71);
         T.due("whichever rules", x.tells(0, 1), 0b1001);
+    }
+
+    private static void tellsOfTheFifth() {
+        TepidByTreaty x = Due.ruled("may thirst<30; joys 1; cools 3;");
+        for (int a = 0; a < 5; a++) {
+            x.aunt(PROUD, a, 0);
+        }
+        x.set(4, 4, 2);
+        Due.row(x, 0, 77, 64);
+        T.due("kinds", x.tells(0, 14), 0b001010);
+        T.due("numbers", x.tells(0, 24), 16);
+        T.due("thirsts: in minute 1 they are 2 more", x.tells(0, 34), 28);
+        T.due("least", x.tells(0, 44), 0);
+        T.due("plans", x.tells(0, 54), 16);
+        T.due("least", x.tells(0, 64), 2);
     }
 
     private static void tellsRefuses() {
