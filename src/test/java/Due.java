@@ -1,3 +1,6 @@
+import java.lang.reflect.InvocationTargetException;
+import java.util.Arrays;
+
 /** Counts the answers that are not the ones that are due, and tells of each. */
 final class Due {
     private final String test;
@@ -55,5 +58,24 @@ final class Due {
         for (int i = 0; i < values.length; i++) {
             x.cell(sheet, i, values[i]);
         }
+    }
+
+    /** Asks a call by its name: so a test can hold a whole table of calls. */
+    static long ask(Object of, String name, int... given) {
+        Class<?>[] types = new Class<?>[given.length];
+        Arrays.fill(types, int.class);
+        Object[] boxed = Arrays.stream(given).boxed().toArray();
+        try {
+            return ((Number) of.getClass().getDeclaredMethod(name, types).invoke(of, boxed)).longValue();
+        } catch (InvocationTargetException e) {
+            throw new IllegalStateException(named(name, given) + " threw", e.getCause());
+        } catch (ReflectiveOperationException e) {
+            throw new IllegalStateException("no call: " + named(name, given), e);
+        }
+    }
+
+    static String named(String name, int... given) {
+        String list = Arrays.toString(given);
+        return name + "(" + list.substring(1, list.length() - 1) + ")";
     }
 }

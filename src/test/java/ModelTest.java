@@ -1,4 +1,3 @@
-import java.lang.reflect.InvocationTargetException;
 import java.lang.reflect.Method;
 import java.lang.reflect.Modifier;
 import java.util.ArrayList;
@@ -49,8 +48,8 @@ public final class ModelTest {
             for (Object[] call : next) {
                 if (left-- <= 0) break;
                 int[] given = (int[]) call[1];
-                long got = ask(x, (String) call[0], given);
-                long want = ask(model, (String) call[0], given);
+                long got = Due.ask(x, (String) call[0], given);
+                long want = Due.ask(model, (String) call[0], given);
                 calls++;
                 told.add(call[0] + Arrays.toString(given) + " " + want);
                 if (got != want) {
@@ -62,17 +61,6 @@ public final class ModelTest {
             }
         }
         return true;
-    }
-
-    private static long ask(Object of, String name, int[] given) throws Exception {
-        Class<?>[] types = new Class<?>[given.length];
-        Arrays.fill(types, int.class);
-        Object[] boxed = Arrays.stream(given).boxed().toArray();
-        try {
-            return ((Number) of.getClass().getDeclaredMethod(name, types).invoke(of, boxed)).longValue();
-        } catch (InvocationTargetException e) {
-            throw new IllegalStateException(name + Arrays.toString(given) + " threw", e.getCause());
-        }
     }
 
     /** How far an argument goes that is no odd one, by call and place. */
